@@ -1,0 +1,83 @@
+/** What the test programs share: naming of cases, comparing, putting a text on the tape. */
+final class Cases {
+    private String name = "";
+    private boolean isRight = true;
+    private boolean isOpen = false;
+    private int failed = 0;
+
+    /** Begins a case and ends the one before. */
+    void begin(String caseName) {
+        close();
+        name = caseName;
+        isRight = true;
+        isOpen = true;
+    }
+
+    void due(String call, long got, long want) {
+        if (got != want) {
+            isRight = false;
+            System.out.println("  " + name + ": " + call + " answered " + got + ", due is " + want);
+        }
+    }
+
+    void due(String call, boolean got, boolean want) {
+        due(call, got ? 1 : 0, want ? 1 : 0);
+    }
+
+    private void close() {
+        if (isOpen) {
+            System.out.println((isRight ? "ok " : "FAILED ") + name);
+            failed += isRight ? 0 : 1;
+        }
+        isOpen = false;
+    }
+
+    /** Ends the program: .ci/run counts the lines that begin with ok and FAILED. */
+    void end() {
+        close();
+        if (failed > 0) {
+            System.exit(1);
+        }
+    }
+
+    /** The text and what is needed to fill the last feed with signs that stand in no text. */
+    static void type(GatesOnBoard x, String text) {
+        StringBuilder all = new StringBuilder(text);
+        while (all.length() % 20 != 0) {
+            all.append('?');
+        }
+        for (int i = 0; i < all.length(); i += 20) {
+            x.feed(four(all, i), four(all, i + 4), four(all, i + 8), four(all, i + 12), four(all, i + 16));
+        }
+    }
+
+    static int four(CharSequence text, int at) {
+        return text.charAt(at) << 24 | text.charAt(at + 1) << 16 | text.charAt(at + 2) << 8 | text.charAt(at + 3);
+    }
+
+    static int circuit(GatesOnBoard x, String text) {
+        type(x, text);
+        return x.circuit(text.length());
+    }
+
+    static int board(GatesOnBoard x, String text) {
+        type(x, text);
+        return x.board(text.length());
+    }
+
+    static GatesOnBoard with(int lines, String board, String circuit) {
+        GatesOnBoard x = new GatesOnBoard();
+        x.lines(lines);
+        board(x, board);
+        circuit(x, circuit);
+        return x;
+    }
+
+    static String many(String part, int times) {
+        StringBuilder all = new StringBuilder();
+        for (int i = 0; i < times; i++) {
+            all.append(i > 0 ? ";" : "").append(part);
+        }
+        return all.toString();
+    }
+}
