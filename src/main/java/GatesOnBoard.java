@@ -1599,7 +1599,6 @@ public final class GatesOnBoard {
             steps.size = 0;
             swaps = 0;
             Arrays.fill(wear, 0);
-            Arrays.fill(areSwaps, false);
             for (int turn = 0; turn <= MOST_SWAPS; turn++) {
                 doAllThatCan();
                 if (course.isAllDone()) {
@@ -1633,16 +1632,20 @@ public final class GatesOnBoard {
                 second = course.layout.placeOf(second);
                 Arrays.fill(wear, 0);
             }
-            steps.add(gates.kindOf(g), course.layout.placeOf(gates.firstOf(g)), second);
+            addStep(gates.kindOf(g), course.layout.placeOf(gates.firstOf(g)), second, false);
+        }
+
+        private void addStep(int kind, int first, int second, boolean isSwap) {
+            if (steps.size >= 0 && steps.size < areSwaps.length) {
+                areSwaps[steps.size] = isSwap;
+            }
+            steps.add(kind, first, second);
         }
 
         private void swap(int edge) {
             int low = course.board.lowOf(edge);
             int high = course.board.highOf(edge);
-            if (steps.size >= 0 && steps.size < areSwaps.length) {
-                areSwaps[steps.size] = true;
-            }
-            steps.add(W, low, high);
+            addStep(W, low, high, true);
             course.swap(edge);
             wearOut(low);
             wearOut(high);

@@ -73,6 +73,14 @@ final class Cases {
         return x;
     }
 
+    /** Gates by three digits each: kind, a, b. */
+    static void gates(GatesOnBoard x, String codes) {
+        x.circuit(0);
+        for (int i = 0; i < codes.length(); i += 4) {
+            x.gate(codes.charAt(i) - '0', codes.charAt(i + 1) - '0', codes.charAt(i + 2) - '0');
+        }
+    }
+
     static String many(String part, int times) {
         StringBuilder all = new StringBuilder();
         for (int i = 0; i < times; i++) {

@@ -18,6 +18,7 @@ final class Model {
     int[] times = {1, 1, 1, 3, 3, 6};
     List<Integer> tape = new ArrayList<>();
     Model kept;
+    private int[][] fars = new int[5][5];
 
     private static final int NONE = -1;
 
@@ -47,6 +48,7 @@ final class Model {
         n = back.n;
         gates = back.gates;
         m = back.m;
+        fars = new int[5][5];
         edges = back.edges;
         layout = back.layout;
         x = back.x;
@@ -196,6 +198,7 @@ final class Model {
             at += 4;
         }
         m = places;
+        fars = new int[5][5];
         edges = read;
         layoutAsAtFirst();
         return read.size();
@@ -284,17 +287,13 @@ final class Model {
         return isSame;
     }
 
-    /** Which gates are ahead of which. */
-    private boolean[][] aheads(boolean isLoose) {
-        int size = gates.size();
-        boolean[][] is = new boolean[size][size];
-        for (int g = 0; g < size; g++) {
+    /** For each gate those ahead of it. */
+    private long[] aheads(boolean isLoose) {
+        long[] is = new long[gates.size()];
+        for (int g = 0; g < is.length; g++) {
             for (int h = 0; h < g; h++) {
                 if (share(gates.get(h), gates.get(g)) && !(isLoose && commute(gates.get(h), gates.get(g)))) {
-                    is[g][h] = true;
-                    for (int i = 0; i < h; i++) {
-                        is[g][i] |= is[h][i];
-                    }
+                    is[g] |= 1L << h | is[h];
                 }
             }
         }
@@ -307,7 +306,7 @@ final class Model {
         }
         int bits = 0;
         for (int h = 0; h < gates.size(); h++) {
-            boolean is = what == 2 ? commute(gates.get(g), gates.get(h)) : aheads(what == 1)[g][h];
+            boolean is = what == 2 ? commute(gates.get(g), gates.get(h)) : (aheads(what == 1)[g] >> h & 1) != 0;
             bits |= is ? 1 << h : 0;
         }
         return bits;
@@ -315,12 +314,12 @@ final class Model {
 
     /** When gates end; the late one begins 1 later. */
     private int[] ends(boolean isLoose, int[] kindTimes, int late) {
-        boolean[][] is = aheads(isLoose);
+        long[] is = aheads(isLoose);
         int[] ends = new int[gates.size()];
         for (int g = 0; g < ends.length; g++) {
             int begin = 0;
             for (int h = 0; h < g; h++) {
-                begin = is[g][h] ? Math.max(begin, ends[h]) : begin;
+                begin = (is[g] >> h & 1) != 0 ? Math.max(begin, ends[h]) : begin;
             }
             ends[g] = begin + kindTimes[gates.get(g)[0]] + (g == late ? 1 : 0);
         }
@@ -612,6 +611,13 @@ final class Model {
         if (p < 0 || q < 0 || p >= m || q >= m) {
             return NONE;
         }
+        if (fars[p][q] == 0) {
+            fars[p][q] = 1 + walk(p, q);
+        }
+        return fars[p][q] - 1;
+    }
+
+    private int walk(int p, int q) {
         int reached = 1 << p;
         for (int steps = 0; steps < 6; steps++) {
             if ((reached >> q & 1) != 0) {
@@ -769,16 +775,11 @@ final class Model {
         return after;
     }
 
-    private static boolean isOpen(int g, long done, boolean[][] is) {
-        for (int h = 0; h < g; h++) {
-            if (is[g][h] && (done >> h & 1) == 0) {
-                return false;
-            }
-        }
-        return (done >> g & 1) == 0;
+    private static boolean isOpen(int g, long done, long[] is) {
+        return (is[g] & ~done) == 0 && (done >> g & 1) == 0;
     }
 
-    private int lowestThatCan(long done, boolean[][] is, int[] where) {
+    private int lowestThatCan(long done, long[] is, int[] where) {
         for (int g = 0; g < gates.size(); g++) {
             int[] gate = gates.get(g);
             if (isOpen(g, done, is) && (gate[0] < 3 || far(where[gate[1]], where[gate[2]]) == 1)) {
@@ -790,7 +791,7 @@ final class Model {
 
     /** Steps (with a fourth number: whether a swap), and last of all the layout behind; null: given up. */
     private List<int[]> steps(int look) {
-        boolean[][] is = aheads(look >= 10);
+        long[] is = aheads(look >= 10);
         List<int[]> steps = new ArrayList<>();
         int[] where = layout.clone();
         int[] wear = new int[m];
@@ -940,7 +941,7 @@ final class Model {
 
     // ---- the fewest swaps, in breadth
 
-    private long doneFrom(long done, boolean[][] is, int[] where) {
+    private long doneFrom(long done, long[] is, int[] where) {
         long now = done;
         for (int g = lowestThatCan(now, is, where); g >= 0; g = lowestThatCan(now, is, where)) {
             now |= 1L << g;
@@ -949,7 +950,7 @@ final class Model {
     }
 
     private int fewest(int[] from, boolean isLoose) {
-        boolean[][] is = aheads(isLoose);
+        long[] is = aheads(isLoose);
         long all = (1L << gates.size()) - 1;
         Map<Long, int[]> level = new HashMap<>();
         level.put(doneFrom(0, is, from) * 10000 + number(from), from);

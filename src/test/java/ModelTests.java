@@ -253,6 +253,59 @@ public final class ModelTests {
         }
     }
 
+    /** Gates of two lines above all, so that there is much to swap. */
+    private void crowd(int size) {
+        due("circuit", x.circuit(0), model.circuit(0));
+        for (int i = 0; i < size; i++) {
+            int kind = random.nextInt(8) == 0 ? 1 : 3 + random.nextInt(random.nextBoolean() ? 1 : 3);
+            int a = random.nextInt(model.n);
+            int b = kind == 1 ? -1 : (a + 1 + random.nextInt(model.n - 1)) % model.n;
+            due("gate", x.gate(kind, a, b), model.gate(kind, a, b));
+        }
+        for (int line = 0; line < model.n; line++) {
+            int place = random.nextInt(model.m);
+            due("place", x.place(line, place), model.place(line, place));
+        }
+    }
+
+    private void routeAll() {
+        for (int look = 0; look <= 15; look += look == 5 ? 5 : 1) {
+            for (int what = 0; what <= 10; what += what == 2 ? 8 : 1) {
+                due("route " + look + " " + what, x.route(look, what), model.route(look, what));
+            }
+        }
+        int look = random.nextInt(6) + 10 * random.nextInt(2);
+        for (int i = 0; i < 70; i += 1 + random.nextInt(6)) {
+            for (int what = 0; what < 5; what++) {
+                due("routed " + look + " " + i + " " + what, x.routed(look, i, what), model.routed(look, i, what));
+            }
+        }
+        for (int what = 0; what < 4; what++) {
+            due("bestLook " + what, x.bestLook(what), model.bestLook(what));
+        }
+    }
+
+    private void runCrowded() {
+        int n = 2 + random.nextInt(3);
+        due("lines", x.lines(n), model.lines(n));
+        for (int turn = 0; turn < 2; turn++) {
+            String text = BOARDS[random.nextInt(BOARDS.length)];
+            n = type(text);
+            due("board", x.board(n), model.board(n));
+            crowd(30);
+            routeAll();
+            crowd(8 + random.nextInt(9));
+            due("fewest", x.fewest(), model.fewest());
+            due("fewestOf 0", x.fewestOf(0), model.fewestOf(0));
+            if (model.m < 5) {
+                for (int what = 1; what < 5; what++) {
+                    due("fewestOf " + what, x.fewestOf(what), model.fewestOf(what));
+                }
+            }
+        }
+    }
+
+    /** How many runs, from which seed on. */
     public static void main(String[] args) {
         Cases cases = new Cases();
         int runs = args.length > 0 ? Integer.parseInt(args[0]) : 150;
@@ -260,6 +313,8 @@ public final class ModelTests {
         for (int seed = first; seed < first + runs; seed++) {
             cases.begin("model, run " + seed);
             new ModelTests(cases, seed).run(30);
+            cases.begin("model, crowded run " + seed);
+            new ModelTests(cases, seed).runCrowded();
         }
         cases.end();
     }

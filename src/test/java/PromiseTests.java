@@ -131,6 +131,10 @@ public final class PromiseTests {
         fault(x, "h", -1001);
         fault(x, "ha", -1001);
         fault(x, "h2", -3001);
+        fault(x, "h9", -3001);
+        fault(x, "h:", -1001);
+        fault(x, "h/", -1001);
+        fault(x, "r9,0", -3001);
         fault(x, "h0 ", -1002);
         fault(x, "h0,1", -1002);
         fault(x, "h0;", -1003);
@@ -185,6 +189,8 @@ public final class PromiseTests {
         due("21 of 20", x.board(21), -1);
         due("no such n", x.board(-3), -1);
         due("tape stays", x.count(2), 20);
+        due("20 of 20", x.board(20), -1009);
+        x.feed(0x35000000, 0, 0, 0, 0);
         due("places without edges", x.board(1), 0);
         due("layout as at first", x.layout(0), 0);
         due("all edges of five", Cases.board(x, ALL_OF_FIVE), 10);
@@ -205,6 +211,8 @@ public final class PromiseTests {
         due("0", Cases.board(x, "0"), -3000);
         due("1", Cases.board(x, "1"), -3000);
         due("6", Cases.board(x, "6"), -3000);
+        due("9", Cases.board(x, "9"), -3000);
+        due(":", Cases.board(x, ":"), -1000);
         due("q", Cases.board(x, "q"), -1000);
         due(";", Cases.board(x, ";0-1"), -1000);
         due("no ;", Cases.board(x, "3,0-1"), -1001);
@@ -393,6 +401,9 @@ public final class PromiseTests {
         due("loose depth", x.circuitIs(2), 4);
         due("of two lines", x.circuitIs(3), 4);
         due("e", x.circuitIs(4), 1);
+        GatesOnBoard other = Cases.with(2, "2;0-1", "r2,1;h1;r1,1;c0,1;r7,1;h1;r6,1");
+        due("e from state 0", other.circuitIs(4), 0);
+        due("e from state 1", other.amplitude(1, 1, 4), 1);
         due("all shorter leaves", x.circuitIs(5), 5);
         due("their depth", x.circuitIs(6), 3);
         long[] kinds = {2, 1, 1, 2, 1, 1};
@@ -452,6 +463,14 @@ public final class PromiseTests {
             due("0 to 0", x.chance(0, 0, what), zero[what]);
             due("0 to 1", x.chance(0, 1, what), one[what]);
         }
+        Cases.circuit(x, "h0;r1,0;h0;r2,0");
+        due("c", x.amplitude(0, 1, 2), 1);
+        due("d", x.amplitude(0, 1, 3), -1);
+        due("c and d", x.chance(0, 1, 1), -1);
+        Cases.circuit(x, "h0;r1,0;h0;r3,0");
+        due("a", x.amplitude(0, 1, 0), 1);
+        due("d", x.amplitude(0, 1, 3), 1);
+        due("a and d", x.chance(0, 1, 1), -1);
         Cases.circuit(x, "h0;r3,0;h0");
         due("three eighths, p", x.chance(0, 0, 0), 2);
         due("three eighths, q", x.chance(0, 0, 1), -1);
@@ -565,6 +584,10 @@ public final class PromiseTests {
         due("not for all states", x.same(1), -2);
         Cases.circuit(x, "h0;h0;h1;d0,1;h1;c0,1");
         due("the same otherwise", x.same(0), 1);
+        Cases.circuit(x, "x0;x1;d0,1;x1;x0");
+        due("not from state 0 alone", x.same(0), 0);
+        due("not from state 0 alone, turned", x.same(1), -2);
+        due("not from state 0 alone, exchanged", x.same(2), -2);
         x.lines(3);
         due("other lines", x.same(0), -3);
         Cases.circuit(x, "h0;c0,1;r1,2");
@@ -716,6 +739,75 @@ public final class PromiseTests {
         due("behind it", x.route(0, 10) * 10 + x.route(0, 11), 10);
     }
 
+    private static final String FORTY =
+        "303 313 312 302 332 520 510 313 512 320 503 523 321 513 532 530 313 302 521 301 502 510 330 313 512 323 330 "
+        + "313 312 302";
+    private static final String BEYOND_FORTY =
+        "331 330 301 312 332 330 313 321 532 513 330 510 521 331 503 310 502 312 331 323 302 303 302 313 501 320 312 "
+        + "331 323 502";
+    private static final String FORTY_LOOSE =
+        "313 510 303 523 320 503 301 520 523 520 331 521 332 520 530 313 501 303 520 523 303 331 501 520 312 331 532 "
+        + "302 330 313";
+    private static final String BEYOND_FORTY_LOOSE =
+        "303 502 321 310 303 531 501 312 320 530 523 313 512 501 302 532 530 310 331 523 321 310 303 532 531 312 301 "
+        + "320 523 303";
+
+    private static void fortySwaps() {
+        CASES.begin("promise 22: forty swaps, and no more");
+        GatesOnBoard x = Cases.with(4, "5;0-1;1-2;2-3;3-4", "");
+        Cases.gates(x, FORTY);
+        due("40", x.route(0, 0), 40);
+        due("all gates", x.route(0, 1), 70);
+        due("the last one", x.routed(0, 69, 0), 3);
+        due("no more", x.routed(0, 70, 0), -4);
+        Cases.gates(x, BEYOND_FORTY);
+        due("a 41st", x.route(0, 0), -6);
+        Cases.gates(x, FORTY_LOOSE);
+        due("40, loose", x.route(10, 0), 40);
+        Cases.gates(x, BEYOND_FORTY_LOOSE);
+        due("a 41st, loose", x.route(10, 0), -6);
+        // 40 swaps wear out places 0 and 1; the next route begins without wear
+        x = Cases.with(4, "4;0-1", "c0,2");
+        due("never", x.route(0, 0), -6);
+        Cases.board(x, "4;0-1;1-2;2-3;3-0");
+        due("the lowest edge", x.routed(0, 0, 1) * 10 + x.routed(0, 0, 2), 1);
+        due("a swap", x.routed(0, 0, 4), 1);
+        Cases.circuit(x, "h0");
+        due("no swap", x.routed(0, 0, 4), 0);
+    }
+
+    private static void costs() {
+        CASES.begin("promise 22: costs");
+        // front c0,2; next w1,2 and c0,1: by edge 0 FAR 1, 2, 1, by edge 1 1, 1, 2: look 2 finds them alike
+        GatesOnBoard x = Cases.with(3, "3;0-1;1-2", "c0,2;w1,2;c0,1");
+        due("look 1 by edge 1", x.routed(1, 0, 1), 1);
+        due("look 2 by edge 0", x.routed(2, 0, 1), 0);
+        // with wear 1 at first it would be 4
+        x = Cases.with(4, "4;0-1;1-2;2-3", "c3,0;c3,1;c0,2;c0,2");
+        due("no wear at first", x.route(3, 0), modelOf(4, "4;0-1;1-2;2-3", "c3,0;c3,1;c0,2;c0,2").route(3, 0));
+        due("three swaps", x.route(3, 0), 3);
+        // in a star each swap wears the middle
+        x = Cases.with(4, "5;0-1;0-2;0-3;0-4", "c1,2;c2,3;c3,1;c1,2");
+        Model model = modelOf(4, "5;0-1;0-2;0-3;0-4", "c1,2;c2,3;c3,1;c1,2");
+        for (int look = 0; look < 6; look++) {
+            due("star, look " + look, x.route(look, 0), model.route(look, 0));
+        }
+    }
+
+    private static Model modelOf(int lines, String board, String circuit) {
+        Model model = new Model();
+        model.lines(lines);
+        for (char sign : board.toCharArray()) {
+            model.tape.add((int) sign);
+        }
+        model.board(board.length());
+        for (char sign : circuit.toCharArray()) {
+            model.tape.add((int) sign);
+        }
+        model.circuit(circuit.length());
+        return model;
+    }
+
     private static void routedGates() {
         CASES.begin("promise 23: routed");
         GatesOnBoard x = Cases.with(3, "4;1-0;2-1", "r5,2;h0;c0,2;w0,1");
@@ -759,9 +851,39 @@ public final class PromiseTests {
         due("never", x.fewest(), -2);
         Cases.board(x, "2;0-1");
         due("more lines than places", x.fewest(), -3);
+        x = Cases.with(4, "5;0-1;1-2;2-3;3-4;4-0", "");
+        Cases.gates(x, SIX);
+        due("six", x.fewest(), 6);
         x = Cases.with(2, "5;0-1;1-2;2-3;3-4", "c0,1");
         x.place(1, 4);
         due("three between", x.fewest(), 3);
+    }
+
+    private static final String SIX =
+        "410 302 302 410 412 513 412 321 521 431 302 513 502 512 510 503 321 532 502 421 421 320 521";
+    private static final String SIX_LOOSE =
+        "320 302 321 310 302 302 301 310 321 310 302 301 321 321 312 312 321 320 301 312 302 310 310 320";
+    private static final String SIX_OF_ALL =
+        "320 313 303 313 302 312 303 313 303 312 302 312 302 313 302 312 302 312 302 313 302 312 302 312";
+    private static final String SIX_OF_ALL_LOOSE =
+        "423 521 503 303 331 532 421 430 530 301 431 421 313 510 403 423 312 421 503";
+
+    private static void sixOf() {
+        CASES.begin("promise 25: fewestOf, six");
+        GatesOnBoard x = Cases.with(3, "5;0-1;1-2;2-3;3-4;4-1", "");
+        Cases.gates(x, SIX_LOOSE);
+        due("loose from the layout", x.fewestOf(0), 6);
+        x = Cases.with(4, "5;0-1;1-2;2-3;3-4", "");
+        Cases.gates(x, SIX_OF_ALL);
+        due("the least strict", x.fewestOf(1), 6);
+        due("the first", x.fewestOf(2), 1302);
+        x = Cases.with(4, "4;0-1;1-2;2-3", "");
+        Cases.gates(x, SIX_OF_ALL_LOOSE);
+        due("the least loose", x.fewestOf(3), 6);
+        due("the first", x.fewestOf(4), 132);
+        Cases.gates(x, "501 512 523 530");
+        due("another circuit, from the layout", x.fewestOf(0), 2);
+        due("another circuit", x.fewestOf(3), 2);
     }
 
     private static void theFewestOf() {
@@ -862,6 +984,14 @@ public final class PromiseTests {
         due("how many", x.bestLook(3), 1);
         due("what 4", x.bestLook(4), -1);
         due("what -1", x.bestLook(-1), -1);
+        GatesOnBoard four = Cases.with(4, "4;0-1;1-2;2-3", "");
+        Cases.gates(four, "331 320 321 312 303 331 323 303 303 321 332 320 303 330 312 320 303 303 312 321 303 310 301 303");
+        due("look 5", four.bestLook(0), 5);
+        due("how many", four.bestLook(1), 7);
+        four = Cases.with(4, "5;0-1;0-2;0-3;0-4", "");
+        Cases.gates(four, "313 302 320 321 331 332 332 302 321 323 321 313 332 321 331 331 303 302 310 313 310 330 312 320");
+        due("look 15", four.bestLook(2), 15);
+        due("how many", four.bestLook(3), 5);
         Cases.circuit(x, "h0");
         due("of like ones the lowest", x.bestLook(0), 0);
         due("of like ones the lowest", x.bestLook(2), 10);
@@ -1000,9 +1130,12 @@ public final class PromiseTests {
         goodLayouts();
         routes();
         lookAndWear();
+        fortySwaps();
+        costs();
         routedGates();
         theFewest();
         theFewestOf();
+        sixOf();
         spending();
         lasting();
         urgentGates();
