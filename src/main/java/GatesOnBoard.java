@@ -197,26 +197,10 @@ public final class GatesOnBoard {
     }
 
     public int gateIs(int g, int what) {
-        GateList gates = now.gates;
-        if (!gates.has(g)) {
+        if (!now.gates.has(g) || what < 0 || what > 5) {
             return NONE;
         }
-        switch (what) {
-            case 0:
-                return gates.kindOf(g);
-            case 1:
-                return gates.firstOf(g);
-            case 2:
-                return gates.kindOf(g) >= C ? gates.secondOf(g) : NOT_THERE;
-            case 3:
-                return gates.kindOf(g) == R ? gates.secondOf(g) : NOT_THERE;
-            case 4:
-                return gates.depthOf(g, false);
-            case 5:
-                return gates.depthOf(g, true);
-            default:
-                return NONE;
-        }
+        return what < 4 ? now.gates.partOf(g, what) : now.gates.depthOf(g, what == 5);
     }
 
     public int ahead(int g, int what) {
@@ -520,22 +504,13 @@ public final class GatesOnBoard {
         if (refusal < 0) {
             return refusal;
         }
-        GateList steps = router.steps;
-        if (!steps.has(i)) {
+        if (!router.steps.has(i)) {
             return NOT_SO_MANY;
         }
-        switch (what) {
-            case 0:
-                return steps.kindOf(i);
-            case 1:
-                return steps.firstOf(i);
-            case 2:
-                return steps.kindOf(i) >= C ? steps.secondOf(i) : NOT_THERE;
-            case 3:
-                return steps.kindOf(i) == R ? steps.secondOf(i) : NOT_THERE;
-            default:
-                return router.isSwap(i) ? 1 : 0;
+        if (what == 4) {
+            return router.isSwap(i) ? 1 : 0;
         }
+        return router.steps.partOf(i, what);
     }
 
     public int bestLook(int what) {
@@ -848,6 +823,22 @@ public final class GatesOnBoard {
         /** The second line, or K of a gate r. */
         int secondOf(int g) {
             return g >= 0 && g < size && g < seconds.length ? seconds[g] : NONE;
+        }
+
+        /** KIND, the first line, the second one, K. */
+        int partOf(int g, int what) {
+            switch (what) {
+                case 0:
+                    return kindOf(g);
+                case 1:
+                    return firstOf(g);
+                case 2:
+                    return isOfTwo(g) ? secondOf(g) : NOT_THERE;
+                case 3:
+                    return kindOf(g) == R ? secondOf(g) : NOT_THERE;
+                default:
+                    return NONE;
+            }
         }
 
         boolean isOfTwo(int g) {
