@@ -204,14 +204,14 @@ public final class GatesOnBoard {
     }
 
     public int ahead(int g, int what) {
-        if (!now.gates.has(g) || g >= aheadBits.length || what < 0 || what > 2) {
+        if (!now.gates.has(g) || what < 0 || what > 2) {
             return NONE;
         }
         if (what == 2) {
             return now.gates.commutingWith(g);
         }
         now.gates.fillAhead(what == 1, aheadBits);
-        return aheadBits[g];
+        return valueAt(aheadBits, g);
     }
 
     // ---- the circuit
@@ -635,6 +635,18 @@ public final class GatesOnBoard {
         }
     }
 
+    // ---- rows: no index is used unlooked at
+
+    private static int valueAt(int[] row, int i) {
+        return i >= 0 && i < row.length ? row[i] : NONE;
+    }
+
+    private static void putAt(int[] row, int i, int value) {
+        if (i >= 0 && i < row.length) {
+            row[i] = value;
+        }
+    }
+
     /** All that is KEPT and UNDONE. */
     private static final class State {
         int lineCount = 2;
@@ -667,15 +679,13 @@ public final class GatesOnBoard {
 
         void write(int four) {
             for (int shift = 24; shift >= 0; shift -= 8) {
-                if (size >= 0 && size < bytes.length) {
-                    bytes[size] = four >> shift & 255;
-                    size++;
-                }
+                putAt(bytes, size, four >> shift & 255);
+                size++;
             }
         }
 
         int byteAt(int at) {
-            return at >= 0 && at < size && at < bytes.length ? bytes[at] : END;
+            return at < size ? valueAt(bytes, at) : END;
         }
 
         private static int fault(int number, int at) {
@@ -846,18 +856,15 @@ public final class GatesOnBoard {
         }
 
         int linesOf(int g) {
-            if (g < 0 || g >= size || g >= masks.length) {
-                return 0;
-            }
-            return masks[g];
+            return has(g) ? valueAt(masks, g) : 0;
         }
 
         void add(int kind, int first, int second) {
-            if (size >= 0 && size < kinds.length) {
-                kinds[size] = kind;
-                firsts[size] = first;
-                seconds[size] = second;
-                masks[size] = kind >= C ? 1 << first | 1 << second : 1 << first;
+            if (size < kinds.length) {
+                putAt(kinds, size, kind);
+                putAt(firsts, size, first);
+                putAt(seconds, size, second);
+                putAt(masks, size, kind >= C ? 1 << first | 1 << second : 1 << first);
                 size++;
             }
         }
@@ -898,7 +905,7 @@ public final class GatesOnBoard {
         // -- which may change places
 
         private boolean isIdle(int g) {
-            return g >= 0 && g < size && g < kinds.length && kinds[g] == R && seconds[g] == 0;
+            return kindOf(g) == R && secondOf(g) == 0;
         }
 
         /**
@@ -906,15 +913,12 @@ public final class GatesOnBoard {
          * D where it but looks which state stands there, X where it but turns it over, H else.
          */
         private int mannerOf(int g, int line) {
-            if (g < 0 || g >= size || g >= kinds.length) {
-                return NONE;
-            }
-            switch (kinds[g]) {
+            switch (kindOf(g)) {
                 case R:
                 case D:
                     return D;
                 case C:
-                    return firsts[g] == line ? D : X;
+                    return firstOf(g) == line ? D : X;
                 case X:
                     return X;
                 default:
@@ -956,32 +960,32 @@ public final class GatesOnBoard {
         }
 
         void fillAhead(boolean isLoose, int[] ahead) {
-            for (int g = 0; g < size && g < ahead.length; g++) {
-                ahead[g] = 0;
+            for (int g = 0; g < size; g++) {
+                int bits = 0;
                 for (int h = 0; h < g; h++) {
                     if (waitsFor(g, h, isLoose)) {
-                        ahead[g] |= 1 << h | ahead[h];
+                        bits |= 1 << h | valueAt(ahead, h);
                     }
                 }
+                putAt(ahead, g, bits);
             }
         }
 
         private int timeOf(int g, int[] times) {
-            int kind = kindOf(g);
-            return kind >= 0 && kind < times.length ? times[kind] : 0;
+            return valueAt(times, kindOf(g));
         }
 
         /** When each gate begins; answers when the last one ends. */
         int reckon(int[] times, boolean isLoose) {
             int last = 0;
-            for (int g = 0; g < size && g < begins.length; g++) {
+            for (int g = 0; g < size; g++) {
                 int begin = 0;
                 for (int h = 0; h < g; h++) {
                     if (waitsFor(g, h, isLoose)) {
-                        begin = Math.max(begin, begins[h] + timeOf(h, times));
+                        begin = Math.max(begin, valueAt(begins, h) + timeOf(h, times));
                     }
                 }
-                begins[g] = begin;
+                putAt(begins, g, begin);
                 last = Math.max(last, begin + timeOf(g, times));
             }
             return last;
@@ -989,21 +993,21 @@ public final class GatesOnBoard {
 
         int depthOf(int g, boolean isLoose) {
             reckon(ONE_EACH, isLoose);
-            return g >= 0 && g < begins.length ? begins[g] + 1 : NONE;
+            return valueAt(begins, g) + 1;
         }
 
         int urgentOnes(int[] times, boolean isLoose) {
             int last = reckon(times, isLoose);
             int bits = 0;
-            for (int g = Math.min(size, lates.length) - 1; g >= 0; g--) {
+            for (int g = size - 1; g >= 0; g--) {
                 int late = last;
-                for (int h = g + 1; h < size && h < lates.length; h++) {
+                for (int h = g + 1; h < size; h++) {
                     if (waitsFor(h, g, isLoose)) {
-                        late = Math.min(late, lates[h] - timeOf(h, times));
+                        late = Math.min(late, valueAt(lates, h) - timeOf(h, times));
                     }
                 }
-                lates[g] = late;
-                if (begins[g] + timeOf(g, times) == late) {
+                putAt(lates, g, late);
+                if (valueAt(begins, g) + timeOf(g, times) == late) {
                     bits |= 1 << g;
                 }
             }
@@ -1057,11 +1061,8 @@ public final class GatesOnBoard {
         }
 
         private int join(int i, int j) {
-            if (!has(i)) {
-                return 0;
-            }
-            if (kinds[i] == R) {
-                seconds[i] = seconds[i] + secondOf(j) & TURNS - 1;
+            if (kindOf(i) == R) {
+                putAt(seconds, i, secondOf(i) + secondOf(j) & TURNS - 1);
                 drop(j);
                 return 1;
             }
@@ -1071,14 +1072,13 @@ public final class GatesOnBoard {
         }
 
         private void drop(int g) {
-            if (has(g)) {
-                int behind = size - g - 1;
-                System.arraycopy(kinds, g + 1, kinds, g, behind);
-                System.arraycopy(firsts, g + 1, firsts, g, behind);
-                System.arraycopy(seconds, g + 1, seconds, g, behind);
-                System.arraycopy(masks, g + 1, masks, g, behind);
-                size--;
+            for (int h = g + 1; h < size; h++) {
+                putAt(kinds, h - 1, kindOf(h));
+                putAt(firsts, h - 1, firstOf(h));
+                putAt(seconds, h - 1, secondOf(h));
+                putAt(masks, h - 1, linesOf(h));
             }
+            size--;
         }
     }
 
@@ -1268,21 +1268,21 @@ public final class GatesOnBoard {
         }
 
         boolean hasEdge(int e) {
-            return e >= 0 && e < edges && e < lows.length;
+            return e >= 0 && e < edges;
         }
 
         int lowOf(int e) {
-            return hasEdge(e) ? lows[e] : NONE;
+            return hasEdge(e) ? valueAt(lows, e) : NONE;
         }
 
         int highOf(int e) {
-            return hasEdge(e) ? highs[e] : NONE;
+            return hasEdge(e) ? valueAt(highs, e) : NONE;
         }
 
         void addEdge(int p, int q) {
-            if (edges >= 0 && edges < lows.length) {
-                lows[edges] = Math.min(p, q);
-                highs[edges] = Math.max(p, q);
+            if (edges < MOST_EDGES) {
+                putAt(lows, edges, Math.min(p, q));
+                putAt(highs, edges, Math.max(p, q));
                 edges++;
             }
         }
@@ -1373,10 +1373,7 @@ public final class GatesOnBoard {
             int rest = row;
             for (int line = Math.min(lineCount, MOST_LINES) - 1; line >= 0; line--) {
                 int p = rest % 10;
-                placesOfLines[line] = p;
-                if (p >= 0 && p < MOST_PLACES) {
-                    linesAtPlaces[p] = line;
-                }
+                put(line, p);
                 rest /= 10;
             }
         }
@@ -1391,11 +1388,11 @@ public final class GatesOnBoard {
         }
 
         int placeOf(int line) {
-            return line >= 0 && line < MOST_LINES ? placesOfLines[line] : NONE;
+            return line >= 0 && line < placesOfLines.length ? placesOfLines[line] : NONE;
         }
 
         int lineAt(int p) {
-            return p >= 0 && p < MOST_PLACES ? linesAtPlaces[p] : NONE;
+            return p >= 0 && p < linesAtPlaces.length ? linesAtPlaces[p] : NONE;
         }
 
         void exchange(int p, int q) {
@@ -1406,10 +1403,10 @@ public final class GatesOnBoard {
         }
 
         private void put(int line, int p) {
-            if (p >= 0 && p < MOST_PLACES) {
+            if (p >= 0 && p < linesAtPlaces.length) {
                 linesAtPlaces[p] = line;
             }
-            if (line >= 0 && line < MOST_LINES) {
+            if (line >= 0 && line < placesOfLines.length) {
                 placesOfLines[line] = p;
             }
         }
@@ -1461,8 +1458,8 @@ public final class GatesOnBoard {
             }
             for (int code = 0; code < codes; code++) {
                 int number = numberOf(code, lineCount, places);
-                if (number >= 0 && size < numbers.length) {
-                    numbers[size] = number;
+                if (number >= 0) {
+                    putAt(numbers, size, number);
                     size++;
                 }
             }
@@ -1488,7 +1485,7 @@ public final class GatesOnBoard {
         }
 
         int rowAt(int i) {
-            return i >= 0 && i < size && i < numbers.length ? numbers[i] : 0;
+            return i < size ? valueAt(numbers, i) : NONE;
         }
     }
 
@@ -1518,7 +1515,7 @@ public final class GatesOnBoard {
         }
 
         private boolean isOpen(int g) {
-            return g >= 0 && g < ahead.length && (done >> g & 1) == 0 && (ahead[g] & ~done) == 0;
+            return (done >> g & 1) == 0 && (valueAt(ahead, g) & ~done) == 0;
         }
 
         private int farOf(int g) {
@@ -1644,13 +1641,7 @@ public final class GatesOnBoard {
         }
 
         private void wearOut(int p) {
-            if (p >= 0 && p < wear.length) {
-                wear[p]++;
-            }
-        }
-
-        private int wearOf(int p) {
-            return p >= 0 && p < wear.length ? wear[p] : 0;
+            putAt(wear, p, valueAt(wear, p) + 1);
         }
 
         private int cheapestEdge(int look) {
@@ -1671,7 +1662,7 @@ public final class GatesOnBoard {
                 course.swap(e);
                 int cost = course.farOfAll(front) * forFront + course.farOfAll(next) * forNext;
                 course.swap(e);
-                cost *= 10 + Math.max(wearOf(low), wearOf(high));
+                cost *= 10 + Math.max(valueAt(wear, low), valueAt(wear, high));
                 if (cost < least) {
                     least = cost;
                     best = e;

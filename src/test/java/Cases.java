@@ -8,7 +8,8 @@ final class Cases {
     /** Begins a case and ends the one before. */
     void begin(String caseName) {
         close();
-        name = caseName;
+        // the text that is read may hold any byte, the answers of a test may not
+        name = caseName.replaceAll("[^ -~]", "?");
         isRight = true;
         isOpen = true;
     }
@@ -22,6 +23,29 @@ final class Cases {
 
     void due(String call, boolean got, boolean want) {
         due(call, got ? 1 : 0, want ? 1 : 0);
+    }
+
+    void due(String call, String got, String want) {
+        if (!got.equals(want)) {
+            isRight = false;
+            System.out.println("  " + name + ": " + call + " answered " + got + ", due is " + want);
+        }
+    }
+
+    /** A case of one call. */
+    void is(String caseName, long got, long want) {
+        begin(caseName);
+        due("it", got, want);
+    }
+
+    void is(String caseName, boolean got, boolean want) {
+        begin(caseName);
+        due("it", got, want);
+    }
+
+    void is(String caseName, String got, String want) {
+        begin(caseName);
+        due("it", got, want);
     }
 
     private void close() {
@@ -87,5 +111,35 @@ final class Cases {
             all.append(i > 0 ? ";" : "").append(part);
         }
         return all.toString();
+    }
+
+    /** The gates as they would be typed. */
+    static String told(GatesOnBoard x) {
+        StringBuilder all = new StringBuilder();
+        for (int g = 0; g < x.count(0); g++) {
+            all.append(g > 0 ? ";" : "");
+            put(all, x.gateIs(g, 0), x.gateIs(g, 1), x.gateIs(g, 2), x.gateIs(g, 3));
+        }
+        return all.toString();
+    }
+
+    /** The routed gates as they would be typed, a swap by its edge; or the refusal. */
+    static String routed(GatesOnBoard x, int look) {
+        int size = x.route(look, 1);
+        StringBuilder all = new StringBuilder(size < 0 ? "" + size : "");
+        for (int i = 0; i < size; i++) {
+            all.append(i > 0 ? " " : "");
+            if (x.routed(look, i, 4) == 1) {
+                all.append(x.routed(look, i, 1)).append('-').append(x.routed(look, i, 2));
+            } else {
+                put(all, x.routed(look, i, 0), x.routed(look, i, 1), x.routed(look, i, 2), x.routed(look, i, 3));
+            }
+        }
+        return all.toString();
+    }
+
+    private static void put(StringBuilder all, int kind, int a, int b, int k) {
+        all.append(kind >= 0 && kind < 6 ? "rhxcdw".charAt(kind) : '?');
+        all.append(k == -2 ? "" : k + ",").append(a).append(b == -2 ? "" : "," + b);
     }
 }

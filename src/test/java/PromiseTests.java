@@ -739,16 +739,16 @@ public final class PromiseTests {
         due("behind it", x.route(0, 10) * 10 + x.route(0, 11), 10);
     }
 
-    private static final String FORTY =
+    static final String FORTY =
         "303 313 312 302 332 520 510 313 512 320 503 523 321 513 532 530 313 302 521 301 502 510 330 313 512 323 330 "
         + "313 312 302";
-    private static final String BEYOND_FORTY =
+    static final String BEYOND_FORTY =
         "331 330 301 312 332 330 313 321 532 513 330 510 521 331 503 310 502 312 331 323 302 303 302 313 501 320 312 "
         + "331 323 502";
-    private static final String FORTY_LOOSE =
+    static final String FORTY_LOOSE =
         "313 510 303 523 320 503 301 520 523 520 331 521 332 520 530 313 501 303 520 523 303 331 501 520 312 331 532 "
         + "302 330 313";
-    private static final String BEYOND_FORTY_LOOSE =
+    static final String BEYOND_FORTY_LOOSE =
         "303 502 321 310 303 531 501 312 320 530 523 313 512 501 302 532 530 310 331 523 321 310 303 532 531 312 301 "
         + "320 523 303";
 
@@ -859,13 +859,13 @@ public final class PromiseTests {
         due("three between", x.fewest(), 3);
     }
 
-    private static final String SIX =
+    static final String SIX =
         "410 302 302 410 412 513 412 321 521 431 302 513 502 512 510 503 321 532 502 421 421 320 521";
-    private static final String SIX_LOOSE =
+    static final String SIX_LOOSE =
         "320 302 321 310 302 302 301 310 321 310 302 301 321 321 312 312 321 320 301 312 302 310 310 320";
-    private static final String SIX_OF_ALL =
+    static final String SIX_OF_ALL =
         "320 313 303 313 302 312 303 313 303 312 302 312 302 313 302 312 302 312 302 313 302 312 302 312";
-    private static final String SIX_OF_ALL_LOOSE =
+    static final String SIX_OF_ALL_LOOSE =
         "423 521 503 303 331 532 421 430 530 301 431 421 313 510 403 423 312 421 503";
 
     private static void sixOf() {
