@@ -88,6 +88,8 @@ public final class AmplitudeEdgeTests {
             amplitude("bit l is line l", 4, "x" + line, 0, 1 << line, "1 0 0 0 0");
             amplitude("x turns back, too", 4, "x" + line, 15, 15 - (1 << line), "1 0 0 0 0");
         }
+        amplitude("u in the last state of four lines", 4, "r3,2", 15, 15, "0 0 0 1 0");
+        amplitude("d in the last state of four lines", 4, "d3,1", 15, 15, "-1 0 0 0 0");
         amplitude("c where a is 0", 2, "c1,0", 1, 1, "1 0 0 0 0");
         amplitude("c where a is 1", 2, "c1,0", 2, 3, "1 0 0 0 0");
         amplitude("c where both are 1", 2, "c1,0", 3, 2, "1 0 0 0 0");
@@ -113,6 +115,8 @@ public final class AmplitudeEdgeTests {
         amplitude("e 0 at least", 1, "h0;h0", 1, 1, "1 0 0 0 0");
         amplitude("e 1 behind three h", 1, "h0;h0;h0", 1, 1, "-1 0 0 0 1");
         amplitude("e 0 behind 30 h", 2, Cases.many("h0", 30), 2, 2, "1 0 0 0 0");
+        amplitude("e 0 in the last state of four lines", 4, "h3;h3", 15, 15, "1 0 0 0 0");
+        amplitude("e 1 in the last state of four lines", 4, "h3;h3;h2", 15, 15, "-1 0 0 0 1");
         amplitude("e 4 on four lines", 4, "h0;h1;h2;h3", 15, 7, "-1 0 0 0 4");
         text = "r2,1;h1;r1,1;c0,1;r7,1;h1;r6,1";
         amplitude("another e from another state", 2, text, 1, 1, "1 0 0 0 1");

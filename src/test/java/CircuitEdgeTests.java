@@ -71,6 +71,7 @@ public final class CircuitEdgeTests {
             x.place(0, 4);
             x.place(1, 0);
             x.seed(5);
+            x.feed(0, 0, 0, 0, 0);
             is("3: " + n + " lines", x.lines(n), true);
             is("3: so many: " + n, x.count(1), n);
             is("3: no gates", x.count(0), 0);
@@ -80,6 +81,7 @@ public final class CircuitEdgeTests {
             is("3: the place behind the last is free, of " + n, x.layout(10 + n), -2);
             is("3: the board stays", x.boardIs(0) * 10 + x.boardIs(1), 52);
             is("3: X stays", x.count(3), 5);
+            is("3: the tape stays", x.count(2), 20);
         }
         GatesOnBoard x = circuit(2, "h0");
         x.lines(2);
@@ -186,6 +188,10 @@ public final class CircuitEdgeTests {
         is("7: 11 beyond 30: NONE comes first", x.draws(11), -1);
         is("7: 0 beyond 30: NONE comes first", x.draws(0), -1);
         x = circuit(2, "h0");
+        x.feed(0, 0, 0, 0, 0);
+        is("7: one more", x.draws(1), 2);
+        is("7: the tape stays", x.count(2), 20);
+        x = circuit(2, "h0");
         x.draws(1);
         CASES.is("7: behind all", Cases.told(x), "h0;d1,0");
         x.lines(1);
@@ -289,6 +295,7 @@ public final class CircuitEdgeTests {
         CASES.begin("10: " + g + " and " + h + (want ? " commute" : " do not commute"));
         CASES.due("told so", circuit(3, g + ";" + h).ahead(0, 2), want ? 3 : 1);
         CASES.due("told the other way round", circuit(3, h + ";" + g).ahead(0, 2), want ? 3 : 1);
+        CASES.due("of the second one", circuit(3, g + ";" + h).ahead(1, 2), want ? 3 : 2);
         CASES.due("loose", circuit(3, g + ";" + h).ahead(1, 1), want ? 0 : 1);
     }
 
@@ -344,6 +351,12 @@ public final class CircuitEdgeTests {
         is("11: a gate of two lines is on both", x.circuitIs(32), 3);
         is("11: all shorter leaves all", x.circuitIs(5), 8);
         is("11: and their depth", x.circuitIs(6), 5);
+        x = circuit(2, "h0");
+        x.gate(2, 1, -1);
+        x.gate(2, 1, -1);
+        is("11: all shorter leaves, gates that came one by one", x.circuitIs(5), 1);
+        x.gate(3, 0, 1);
+        is("11: the depth of what is left, gates that came one by one", x.circuitIs(6), 2);
         is("11: K 4 and 4 are 0", circuit(1, "r4,0;r4,0").circuitIs(20), 0);
         is("11: K 7 and 7 are 6", circuit(1, "r7,0;h0;r7,0").circuitIs(20), 6);
         is("11: K of one line alone", circuit(2, "r7,0;r5,1").circuitIs(21), 5);

@@ -9,7 +9,10 @@ import java.nio.file.Files;
 import java.nio.file.Path;
 import java.util.ArrayList;
 import java.util.List;
+import java.util.Set;
 import java.util.TreeSet;
+import java.util.regex.Matcher;
+import java.util.regex.Pattern;
 
 /** The face of the class, and the rules of LANGUAGE.md that can be seen without much ado. */
 public final class FaceTests {
@@ -21,6 +24,10 @@ public final class FaceTests {
         "int far(int,int)", "int layout(int)", "int good(int)", "int route(int,int)", "int routed(int,int,int)",
         "int fewest()", "int fewestOf(int)", "boolean spend(int,int)", "int lasts(int,int)", "int urgent(int)",
         "int bestLook(int)", "boolean seed(int)", "int keep()", "boolean undo()", "int check(int)", "int count(int)"};
+
+    private static final Pattern LIBRARY = Pattern.compile("\\b(Arrays|Math|Integer|Long|System|List)\\.\\w+");
+    private static final Set<String> LISTED = Set.of("Arrays.copyOf", "Arrays.copyOfRange", "Arrays.fill",
+        "System.arraycopy", "Math.max", "Math.min", "Math.abs", "Integer.bitCount", "List.of");
 
     private FaceTests() {
     }
@@ -94,6 +101,10 @@ public final class FaceTests {
             cases.due(place, isForbidden, false);
             cases.due(place, code.startsWith("package"), false);
             cases.due(place, code.startsWith("import") && !code.equals("import java.util.Arrays;"), false);
+            Matcher call = LIBRARY.matcher(code);
+            while (call.find()) {
+                cases.due(place + ": " + call.group(), LISTED.contains(call.group()), true);
+            }
             for (int at = 0; at < row.length(); at++) {
                 cases.due(place, row.charAt(at) < 128, true);
             }
@@ -110,9 +121,9 @@ public final class FaceTests {
     private static void theRoom(Cases cases) {
         cases.begin("room: calls make nothing");
         ThreadMXBean threads = (ThreadMXBean) ManagementFactory.getThreadMXBean();
-        GatesOnBoard x = Cases.with(4, "5;0-1;1-2;2-3;3-4;4-0", "h0;c0,2;w1,3;r1,0;r7,0;d0,1;x3");
         long[] made = new long[3];
         for (int round = 0; round < made.length; round++) {
+            GatesOnBoard x = Cases.with(4, "5;0-1;1-2;2-3;3-4;4-0", "h0;c0,2;w1,3;r1,0;r7,0;d0,1;x3");
             long before = threads.getCurrentThreadAllocatedBytes();
             callAll(x);
             made[round] = threads.getCurrentThreadAllocatedBytes() - before;
@@ -121,7 +132,7 @@ public final class FaceTests {
     }
 
     private static void callAll(GatesOnBoard x) {
-        for (int what = 0; what < 35; what++) {
+        for (int what = 0; what < 30; what++) {
             x.circuitIs(what);
             x.boardIs(what);
             x.layout(what);

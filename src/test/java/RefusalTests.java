@@ -87,9 +87,10 @@ public final class RefusalTests {
 
     private static void full(GatesOnBoard x) {
         x.lines(2);
+        Cases.circuit(x, "h1;d0,1");
+        x.keep();
         Cases.circuit(x, Cases.many("h1", 14) + ";" + Cases.many("h0;x1", 8));
         x.seed(31);
-        x.keep();
         Cases.type(x, TEXT);
     }
 
@@ -112,7 +113,8 @@ public final class RefusalTests {
     }
 
     private static void gates(GatesOnBoard x, List<Long> answers) {
-        for (int g = 0; g < x.count(0); g++) {
+        int size = x.count(0);
+        for (int g = 0; g < size; g++) {
             put(answers, x.gateIs(g, 0), x.gateIs(g, 1), x.gateIs(g, 2), x.gateIs(g, 3));
         }
     }

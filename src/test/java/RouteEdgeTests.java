@@ -91,6 +91,9 @@ public final class RouteEdgeTests {
         route("no gates", 1, "2", "", 0, "0 0 0 0");
         route("no gates of two lines", 2, "2", "h0;x0;r1,1", 5, "0 3 2 0 1");
         route("one that fits", 2, "2;0-1", "w1,0", 0, "0 1 1 0 1");
+        route("loose, but the depth is strict", 2, "2", "r1,0;r2,0;r3,0", 10, "0 3 3 0 1");
+        route("the depth goes by places", 3, ROW_OF_3, "h0;c0,2;h1", 0, "1 4 3 1 0 2");
+        route("30 gates", 1, "2", Cases.many("h0", 30), 0, "0 30 30 0");
         route("no edges", 2, "5", "w1,0", 0, "-6 -6 -6 -6 -6");
         route("no edge at a line of the front", 4, "4;0-1", "c2,3", 0, "-6 -6 -6 -6 -6 -6 -6");
         route("no edge at a line of the front behind one that fits", 4, "4;0-1", "c0,1;c2,3", 10, "-6 -6 -6 -6 -6 -6 -6");
@@ -159,6 +162,10 @@ public final class RouteEdgeTests {
         routed("10 and the wear, not 9", 4, CROSS, "c3,2;c3,0;c1,0", 2, "2-4 1-4 c3,1 0-2 1-3 2-4 c1,4 c2,4");
         routed("10 and the wear, not 11", 4, CROSS, "d3,0;w1,0;c0,2", 2, "0-2 1-3 2-4 d1,4 1-3 w1,4 0-2 c4,2");
         routed("a gate of two lines ends it", 4, "4;0-1;1-2;2-3", "d0,3;d0,2", 10, "0-1 d1,2 1-2 d2,3");
+        routed("it ends at 0, not at 1", 4, CROSS, "w2,0;w0,3;c0,1;c0,2;c0,2", 2,
+            "w2,0 0-2 1-3 2-4 w4,1 1-3 c4,1 0-2 c4,2 c4,2");
+        routed("it ends at 0, not below", 4, "4;0-1;1-2;2-3", "w3,0;d3,0;d2,1;w3,0;d3,1", 3,
+            "d2,1 2-3 1-2 w1,0 d1,0 w1,0 d1,2");
         GatesOnBoard x = Cases.with(4, "4;0-1", "c0,2");
         is("22: given up behind 40 swaps of 0-1", x.route(0, 0), -6);
         Cases.board(x, "4;0-1;1-2;2-3;3-0");
@@ -294,6 +301,31 @@ public final class RouteEdgeTests {
         is("24: gates are done whenever they can be, between swaps, too", x.fewest(), 2);
     }
 
+    /** What was sought before on the same object tells nothing of another circuit, another board. */
+    private static void soughtBefore() {
+        GatesOnBoard x = Cases.with(3, ROW_OF_3, turns(13));
+        x.fewest();
+        Cases.circuit(x, turns(1));
+        is("24: another circuit", x.fewest(), 1);
+        Cases.circuit(x, turns(13));
+        x.fewestOf(0);
+        Cases.circuit(x, turns(3));
+        is("25: another circuit, loose", x.fewestOf(0), 2);
+        Cases.circuit(x, turns(15));
+        x.fewestOf(1);
+        Cases.circuit(x, turns(3));
+        is("25: another circuit, of all layouts", x.fewestOf(1), 1);
+        is("25: another circuit, the first layout", x.fewestOf(2), 21);
+        Cases.board(x, "3;0-1");
+        x.fewest();
+        Cases.board(x, ROW_OF_3);
+        is("24: another board", x.fewest(), 2);
+        Cases.board(x, "3;0-1");
+        x.fewestOf(3);
+        Cases.board(x, ROW_OF_3);
+        is("25: another board, of all layouts", x.fewestOf(3), 1);
+    }
+
     private static void sixOfAll() {
         GatesOnBoard x = Cases.with(4, "5;0-1;1-2;2-3;3-4;4-0", "");
         Cases.gates(x, PromiseTests.SIX);
@@ -382,6 +414,7 @@ public final class RouteEdgeTests {
         fromTheLayout();
         routedGates();
         fewest();
+        soughtBefore();
         sixOfAll();
         fewestRefused();
         bestLooks();

@@ -99,6 +99,18 @@ public final class TextEdgeTests {
         Cases.type(x, "h0;h1;q");
         is("4: the first n bytes alone", x.circuit(5), 2);
         is("4: what is behind them is gone", x.count(2), 0);
+        cut("h0;h1", 1, -1001);
+        cut("h0;h1", 3, -1003);
+        cut("h0;h1", 4, -1004);
+        cut("c0,1", 1, -1001);
+        cut("c0,1", 2, -1002);
+        cut("c0,1", 3, -1003);
+        cut("r1,0", 1, -1001);
+        cut("r1,0", 2, -1002);
+        cut("r1,0", 3, -1003);
+        cut("r1,0;x0", 4, 1);
+        cut(Cases.many("h0", 31), 90, -4090);
+        cut(Cases.many("h0", 31), 89, 30);
         x = Cases.with(2, "2;0-1", "h0;c0,1;x0");
         Cases.circuit(x, "w1,0");
         CASES.is("4: in place of the one before", Cases.told(x), "w1,0");
@@ -107,8 +119,22 @@ public final class TextEdgeTests {
         CASES.is("4: what is told, in order", Cases.told(x), "r0,0;h1;x0;c1,0;d0,1");
         x = Cases.with(2, "5;0-1;1-2;2-3;3-4", "h0");
         x.place(1, 4);
+        x.seed(12);
+        x.keep();
         Cases.circuit(x, "c0,1");
         is("4: the layout stays", x.layout(1), 4);
+        is("4: the board stays", x.boardIs(1), 4);
+        is("4: X stays", x.count(3), 12);
+        is("4: the lines stay", x.count(1), 2);
+        is("4: what is kept stays", x.same(0), 0);
+        x.undo();
+        CASES.is("4: what is kept comes back", Cases.told(x), "h0");
+    }
+
+    private static void cut(String text, int n, int want) {
+        GatesOnBoard x = new GatesOnBoard();
+        Cases.type(x, text);
+        is("4: the end at " + n + ", where the tape goes on: " + text, x.circuit(n), want);
     }
 
     private static void circuitSizes() {
@@ -233,6 +259,15 @@ public final class TextEdgeTests {
         Cases.type(x, "3;0-1;1-2");
         is("5: the first n bytes alone", x.board(5), 1);
         is("5: what is behind them is gone", x.count(2), 0);
+    }
+
+    private static void boardsThatAreCut() {
+        int[] due = {0, 0, -1002, -1003, -1004, 1, -1006, -1007, -1008, 2};
+        for (int n = 1; n < due.length; n++) {
+            GatesOnBoard x = new GatesOnBoard();
+            Cases.type(x, "3;0-1;1-2;0-2");
+            is("5: the end at " + n + ", where the tape goes on", x.board(n), due[n]);
+        }
     }
 
     private static void boardsThatAre() {
@@ -388,6 +423,7 @@ public final class TextEdgeTests {
         circuitFaults();
         circuitDigits();
         boardLengths();
+        boardsThatAreCut();
         boardsThatAre();
         boardFaults();
         checks();

@@ -159,7 +159,14 @@ public final class TimeEdgeTests {
         urgent("29 of 30", 2, Cases.many("h0", 29) + ";h1", (1 << 29) - 1, (1 << 30) - 1);
         urgent("behind it only when it has ended, not a neighbour alone", 3, "h0;c0,1;c1,2;x2", 15, 7);
         urgent("one that all behind can wait for is not", 3, "h2;w0,1;c1,2", 6, 6);
-        GatesOnBoard x = Cases.with(3, ROW_OF_3, "h0;c1,2");
+        GatesOnBoard x = Cases.with(2, "2;0-1", Cases.many("h0;x0", 15));
+        x.urgent(0);
+        for (int size = 29; size >= 0; size--) {
+            String text = Cases.many("h0;x0", 15).substring(0, Math.max(0, 3 * size - 1));
+            Cases.circuit(x, text);
+            is("28: behind the last gate none is urgent, " + size + " gates", x.urgent(0), (1 << size) - 1);
+        }
+        x = Cases.with(3, ROW_OF_3, "h0;c1,2");
         x.spend(1, 3);
         is("28: as long by spend()", x.urgent(0), 3);
         x.spend(1, 4);
